@@ -23,7 +23,7 @@ public final class CureTown {
     private static final int MOST_OPEN = 5;
     private static final int MOST_LETTERS = 6;
     private static final int MOST_DIGITS = 2;
-    private static final int MOST_BATH_QUARTERS = 16;
+    private static final int MOST_ACT_QUARTERS = 16;
     private static final int GLASSES_A_BOTTLE = 10;
     private static final int BOTTLE_DAYS = 20;
     private static final int MOST_TO_SELL = 999;
@@ -51,7 +51,7 @@ public final class CureTown {
 
     // What may stand first behind an act's keyword, by the act's kind.
     private static final int[] LEAST_FIRST = {0, 0, 1, 0, 1};
-    private static final int[] MOST_FIRST = {SPRINGS - 1, BATH_KINDS - 1, MOST_BATH_QUARTERS, QUARTERS - 1, 9};
+    private static final int[] MOST_FIRST = {SPRINGS - 1, BATH_KINDS - 1, MOST_ACT_QUARTERS, QUARTERS - 1, 9};
 
     private final Town town;
     private final DayPlan dayPlan;
@@ -450,8 +450,6 @@ public final class CureTown {
         void add(int kind) {
             if (count < MOST_ACTS) {
                 kinds[count] = kind;
-                firsts[count] = 0;
-                seconds[count] = 0;
                 count++;
             }
         }
@@ -726,20 +724,32 @@ public final class CureTown {
         private void takeFirst(int token) {
             int act = current.count - 1;
             int kind = current.kinds[act];
-            if (isNumber(token, LEAST_FIRST[kind], MOST_FIRST[kind])) {
-                current.firsts[act] = tape.number;
-                wants = kind == BATH ? WANTS_SECOND : kind == EACH ? WANTS_BRACKET : WANTS_ACT;
+            if (!canStand(token, LEAST_FIRST[kind], MOST_FIRST[kind])) {
+                return;
+            }
+            current.firsts[act] = tape.number;
+            switch (kind) {
+                case BATH:
+                    wants = WANTS_SECOND;
+                    break;
+                case EACH:
+                    wants = WANTS_BRACKET;
+                    break;
+                default:
+                    wants = WANTS_ACT;
+                    break;
             }
         }
 
         private void takeSecond(int token) {
-            if (isNumber(token, 1, MOST_BATH_QUARTERS)) {
+            if (canStand(token, 1, MOST_ACT_QUARTERS)) {
                 current.seconds[current.count - 1] = tape.number;
                 wants = WANTS_ACT;
             }
         }
 
-        private boolean isNumber(int token, int least, int most) {
+        /** Whether the token is a number from least to most; its fault is told if not. */
+        private boolean canStand(int token, int least, int most) {
             if (token != NUMBER) {
                 fail(CANT_STAND);
             } else if (tape.number < least || tape.number > most) {

@@ -12,6 +12,7 @@ public final class BestOrderTest {
         wrongInputs();
         keeping();
         keptForOneDay();
+        keptGlassesCount();
         keptWithSevenThere();
         CHECK.finish();
     }
@@ -110,8 +111,33 @@ public final class BestOrderTest {
         CHECK.due("best(1, 0)", x.best(1, 0), 5);
     }
 
+    /** Each of three takes a glass in another order; what counts is that of the best one. */
+    private static void keptGlassesCount() {
+        CureTown x = new CureTown();
+        Texts.load(x, "cure a: glass 0 glass 0 glass 0 glass 0; cure b: glass 0 rest 1; cure c: glass 0 rest 1 glass 0;");
+        x.spring(0, 1, 0, 5, 0);
+        x.guest(0, 0, 0, 9, 0);
+        x.guest(1, 1, 0, 9, 0);
+        x.guest(2, 2, 0, 9, 0);
+        // In its order 4 + 2 + 0 are done; 2 + 2 + 3 at the best, and the ends are 5 + 2 + 4 then.
+        bests(x, 0, 7, 11, 1, 2, 0);
+        x.keep(true);
+        x.next();
+        int[] glasses = {2, 1, 2};
+        int[] done = {2, 2, 3};
+        for (int g = 0; g < 3; g++) {
+            CHECK.due("bill(" + g + ", 2)", x.bill(g, 2), glasses[g]);
+            CHECK.due("bill(" + g + ", 3)", x.bill(g, 3), done[g]);
+        }
+        CHECK.due("water(0, 1)", x.water(0, 1), 5);
+    }
+
     private static void keeping() {
         CureTown x = crowded();
+        x.next();
+        CHECK.due("nothing told: done 0", x.bill(0, 3), 3);
+        CHECK.due("nothing told: done 1", x.bill(1, 3), 0);
+        x = crowded();
         CHECK.due("keep(true)", x.keep(true), true);
         CHECK.plans(x, 0, 1, 0, 0);
         x.next();

@@ -6,6 +6,7 @@ public final class DaysTest {
     public static void main(String[] args) {
         ninetyNineDaysEnd();
         waterIsCounted();
+        firstAndLastQuarter();
         waterRefuses();
         billsAreCounted();
         billRefuses();
@@ -59,6 +60,15 @@ public final class DaysTest {
         x.next();
         waters(x, 0, 63, 6, 4, 17);
         waters(x, 2, 0, 0, 0, 0);
+    }
+
+    private static void firstAndLastQuarter() {
+        CureTown x = new CureTown();
+        Texts.load(x, "cure a: glass 3 until 47 glass 3;");
+        x.spring(3, 1, 0, 48, 0);
+        x.guest(0, 0, 0, 1, 0);
+        x.next();
+        waters(x, 3, 48, 2, 4, 6);
     }
 
     private static void waterRefuses() {

@@ -85,6 +85,17 @@ public final class LayoutTest {
         CHECK.plans(x, 10, 3, 0, 3, 48, 0, 1);
         CHECK.plans(x, 10, 3, 50, 2, 2, 2, NONE);
         gaps();
+        noRowsOfAnotherDay();
+    }
+
+    private static void noRowsOfAnotherDay() {
+        CureTown x = town("cure a: each 2 (bath 0 1 bath 0 1);");
+        x.bath(0, 0, true);
+        x.guest(0, 0, 0, 9, 0);
+        CHECK.plans(x, 2, 0, 50, 0, 0, NONE);
+        CHECK.plans(x, 1, 0, 50, NONE, NONE);
+        CHECK.plans(x, 1, 0, 10, NONE, NONE);
+        CHECK.plans(x, 1, 0, 90, NONE, NONE);
     }
 
     private static void gaps() {

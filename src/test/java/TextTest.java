@@ -5,6 +5,8 @@ public final class TextTest {
     public static void main(String[] args) {
         goodTexts();
         tokens();
+        whatWasCutOffIsNotRead();
+        aFaultInBracketsIsForgotten();
         whatCantStand();
         names();
         numbers();
@@ -61,6 +63,42 @@ public final class TextTest {
         bad("cure a\u00e9:;", 1, 6);
         bad("CURE a:;", 1, 0);
         bad("cure aaaaaaabcd:;", 1, 5);
+        bad("cure abcdefg:;", 1, 5);
+        bad("cure A:;", 1, 5);
+        bad("cure aB:;", 1, 5);
+        bad("cure Ab:;", 1, 5);
+        bad("cure a: restA 1;", 1, 8);
+        bad("cure a: restZ 1;", 1, 8);
+        bad("cure a: rest@ 1;", 1, 12);
+        bad("cure a: rest[ 1;", 1, 12);
+        bad("cure a: rest` 1;", 1, 12);
+        bad("cure a: rest{ 1;", 1, 12);
+        bad("cure a: rest /;", 1, 13);
+        bad("cure a: rest 1:;", 1, 14);
+        good("cure lure:;cure pest:;cure math:;cure class:;cure intil:;cure reach:;", 6);
+        good("cure curd:;cure resu:;cure bati:;cure glast:;cure untik:;cure eaci:;", 6);
+    }
+
+    private static void whatWasCutOffIsNotRead() {
+        CureTown x = new CureTown();
+        String[] texts = {"cure a: rest 17;", "cure abc", "cure a: glass 0"};
+        int[] lengths = {14, 6, 13};
+        for (int i = 0; i < texts.length; i++) {
+            Texts.put(x, texts[i]);
+            x.end(lengths[i]);
+            CHECK.due("load of '" + texts[i] + "' cut", x.load(), CureTown.NONE);
+            CHECK.due("fault(0)", x.fault(0), 1);
+            CHECK.due("fault(1)", x.fault(1), lengths[i]);
+        }
+    }
+
+    private static void aFaultInBracketsIsForgotten() {
+        CureTown x = new CureTown();
+        Texts.load(x, "cure a: each 1 (each 1 (rest 0));");
+        CHECK.due("load", Texts.load(x, "cure a: rest 1 );"), CureTown.NONE);
+        CHECK.due("fault(1)", x.fault(1), 15);
+        Texts.load(x, "cure a: each 1 (each 1 (rest 0));");
+        CHECK.due("load", Texts.load(x, "cure a: rest 1 ;"), 1);
     }
 
     private static void whatCantStand() {
@@ -75,6 +113,10 @@ public final class TextTest {
         bad("cure a;", 1, 6);
         bad("cure a", 1, 6);
         bad("cure a a:;", 1, 7);
+        bad("cure a 1;", 1, 7);
+        bad("cure a: rest :;", 1, 13);
+        bad("cure a: each 1 );", 1, 15);
+        bad("cure a: each 1 ((;", 1, 16);
         bad("cure a:", 1, 7);
         bad("cure a: \n", 1, 9);
         bad("cure a: 1;", 1, 8);
