@@ -2,12 +2,20 @@
 final class Check {
     private int checked = 0;
     private int wrong = 0;
+    private int sentences = 0;
+    private String sentence = "";
+
+    /** The document's sentence that the answers behind it belong to. */
+    void about(String words) {
+        sentences++;
+        sentence = "[" + words + "] ";
+    }
 
     void due(String call, int got, int want) {
         checked++;
         if (got != want) {
             wrong++;
-            System.out.println(call + " answered " + got + ", due is " + want);
+            System.out.println(sentence + call + " answered " + got + ", due is " + want);
         }
     }
 
@@ -15,8 +23,12 @@ final class Check {
         checked++;
         if (got != want) {
             wrong++;
-            System.out.println(call + " answered " + got + ", due is " + want);
+            System.out.println(sentence + call + " answered " + got + ", due is " + want);
         }
+    }
+
+    void none(String call, int got) {
+        due(call, got, CureTown.NONE);
     }
 
     /** The answers of plan(day, g, first), plan(day, g, first + 1) and so on. */
@@ -27,8 +39,27 @@ final class Check {
         }
     }
 
+    void waters(CureTown x, int s, int... want) {
+        for (int what = 0; what < want.length; what++) {
+            due("water(" + s + ", " + what + ")", x.water(s, what), want[what]);
+        }
+    }
+
+    void bills(CureTown x, int g, int... want) {
+        for (int what = 0; what < want.length; what++) {
+            due("bill(" + g + ", " + what + ")", x.bill(g, what), want[what]);
+        }
+    }
+
+    void looks(CureTown x, int... want) {
+        for (int what = 0; what < want.length; what++) {
+            due("look(" + what + ")", x.look(what), want[what]);
+        }
+    }
+
     void finish() {
-        System.out.println(checked + " answers, " + wrong + " wrong");
+        String told = sentences == 0 ? "" : sentences + " sentences, ";
+        System.out.println(told + checked + " answers, " + wrong + " wrong");
         if (wrong != 0 || checked == 0) {
             System.exit(1);
         }

@@ -32,12 +32,6 @@ public final class DaysTest {
         CHECK.due("plan(99, 0, 0)", x.plan(99, 0, 0), 0);
     }
 
-    private static void waters(CureTown x, int s, int... want) {
-        for (int what = 0; what < want.length; what++) {
-            CHECK.due("water(" + s + ", " + what + ")", x.water(s, what), want[what]);
-        }
-    }
-
     private static void waterIsCounted() {
         CureTown x = new CureTown();
         Texts.load(x, "cure a: glass 0 glass 0 glass 1;");
@@ -45,21 +39,21 @@ public final class DaysTest {
         x.spring(1, 1, 0, 48, 1);
         x.guest(0, 0, 0, 2, 9);
         x.guest(0, 0, 1, 2, 2);
-        waters(x, 0, 0, 0, 0, 0);
+        CHECK.waters(x, 0, 0, 0, 0, 0);
         x.next();
-        waters(x, 0, 22, 2, 2, 0);
-        waters(x, 1, 48, 1, 4, 7);
+        CHECK.waters(x, 0, 22, 2, 2, 0);
+        CHECK.waters(x, 1, 48, 1, 4, 7);
         x.next();
-        waters(x, 0, 44, 6, 3, 8);
-        waters(x, 1, 96, 2, 8, 14);
+        CHECK.waters(x, 0, 44, 6, 3, 8);
+        CHECK.waters(x, 1, 96, 2, 8, 14);
         x.spring(0, 1, 0, 9, 1);
         x.next();
-        waters(x, 0, 53, 6, 3, 17);
+        CHECK.waters(x, 0, 53, 6, 3, 17);
         x.spring(0, 9, 0, 48, 1);
         x.spring(0, 1, 0, 10, 1);
         x.next();
-        waters(x, 0, 63, 6, 4, 17);
-        waters(x, 2, 0, 0, 0, 0);
+        CHECK.waters(x, 0, 63, 6, 4, 17);
+        CHECK.waters(x, 2, 0, 0, 0, 0);
     }
 
     private static void firstAndLastQuarter() {
@@ -68,7 +62,7 @@ public final class DaysTest {
         x.spring(3, 1, 0, 48, 0);
         x.guest(0, 0, 0, 1, 0);
         x.next();
-        waters(x, 3, 48, 2, 4, 6);
+        CHECK.waters(x, 3, 48, 2, 4, 6);
     }
 
     private static void waterRefuses() {
@@ -76,12 +70,6 @@ public final class DaysTest {
         int[][] wrong = {{-1, 0}, {4, 0}, {0, -1}, {0, 4}, {Integer.MAX_VALUE, 0}, {0, Integer.MIN_VALUE}};
         for (int[] w : wrong) {
             CHECK.due("water" + java.util.Arrays.toString(w), x.water(w[0], w[1]), NONE);
-        }
-    }
-
-    private static void bills(CureTown x, int g, int... want) {
-        for (int what = 0; what < want.length; what++) {
-            CHECK.due("bill(" + g + ", " + what + ")", x.bill(g, what), want[what]);
         }
     }
 
@@ -94,27 +82,27 @@ public final class DaysTest {
         x.guest(1, 0, 1, 4, 4);
         x.rate(2, 10);
         x.rate(1, 7);
-        bills(x, 0, 0, 0, 0, 0);
+        CHECK.bills(x, 0, 0, 0, 0, 0);
         x.next();
-        bills(x, 0, 1, 10, 2, 4);
-        bills(x, 1, 0, 0, 0, 0);
+        CHECK.bills(x, 0, 1, 10, 2, 4);
+        CHECK.bills(x, 1, 0, 0, 0, 0);
         x.rate(2, 500);
         x.rate(2, 30);
         x.next();
-        bills(x, 0, 2, 40, 4, 7);
-        bills(x, 1, 1, 7, 1, 2);
+        CHECK.bills(x, 0, 2, 40, 4, 7);
+        CHECK.bills(x, 1, 1, 7, 1, 2);
         x.next();
         x.next();
         x.next();
-        bills(x, 0, 2, 40, 4, 7);
-        bills(x, 1, 3, 21, 3, 7);
+        CHECK.bills(x, 0, 2, 40, 4, 7);
+        CHECK.bills(x, 1, 3, 21, 3, 7);
     }
 
     private static void billRefuses() {
         CureTown x = new CureTown();
         Texts.load(x, "cure a:;");
         x.guest(0, 0, 5, 6, 0);
-        bills(x, 0, 0, 0, 0, 0, NONE);
+        CHECK.bills(x, 0, 0, 0, 0, 0, NONE);
         int[][] wrong = {{-1, 0}, {1, 0}, {8, 0}, {0, -1}, {0, 4}, {Integer.MAX_VALUE, 0}, {0, Integer.MIN_VALUE}};
         for (int[] w : wrong) {
             CHECK.due("bill" + java.util.Arrays.toString(w), x.bill(w[0], w[1]), NONE);

@@ -85,20 +85,14 @@ public final class GuestsTest {
         int[] first = {0, 2, 3, 1, 0, 0, 0};
         int[] second = {1, 2, 3, 2, 5, 0, 0};
         int[] third = {2, 2, 3, 0, 7, 3, 0};
-        looks(x, first);
+        CHECK.looks(x, first);
         x.next();
-        looks(x, second);
+        CHECK.looks(x, second);
         x.sell(3);
         x.next();
-        looks(x, third);
+        CHECK.looks(x, third);
         CHECK.due("look(7)", x.look(7), CureTown.NONE);
         CHECK.due("look(-1)", x.look(-1), CureTown.NONE);
         CHECK.due("look(max)", x.look(Integer.MAX_VALUE), CureTown.NONE);
-    }
-
-    private static void looks(CureTown x, int[] want) {
-        for (int what = 0; what < want.length; what++) {
-            CHECK.due("look(" + what + ") on " + want[0], x.look(what), want[what]);
-        }
     }
 }

@@ -18,16 +18,8 @@ public final class LayoutTest {
         CHECK.finish();
     }
 
-    private static CureTown town(String text) {
-        CureTown x = new CureTown();
-        if (Texts.load(x, text) == NONE) {
-            CHECK.due("load of '" + text + "'", false, true);
-        }
-        return x;
-    }
-
     private static void glasses() {
-        CureTown x = town("cure a: glass 1 glass 1;");
+        CureTown x = Texts.town("cure a: glass 1 glass 1;");
         x.spring(1, 2, 5, 8, 0);
         for (int g = 0; g < 4; g++) {
             x.guest(0, 0, 0, 9, 0);
@@ -45,7 +37,7 @@ public final class LayoutTest {
     }
 
     private static void bound() {
-        CureTown x = town("cure a: glass 0 rest 1 glass 1 glass 0 glass 2 rest 2;");
+        CureTown x = Texts.town("cure a: glass 0 rest 1 glass 1 glass 0 glass 2 rest 2;");
         x.spring(0, 9, 0, 48, 4);
         x.spring(1, 9, 0, 48, 5);
         x.guest(0, 0, 0, 9, 8);
@@ -62,7 +54,7 @@ public final class LayoutTest {
     }
 
     private static void baths() {
-        CureTown x = town("cure a: bath 1 3; cure b: rest 1 bath 1 1; cure c: bath 1 16 bath 1 16 bath 1 16 bath 1 1;");
+        CureTown x = Texts.town("cure a: bath 1 3; cure b: rest 1 bath 1 1; cure c: bath 1 16 bath 1 16 bath 1 16 bath 1 1;");
         x.bath(1, 0, true);
         x.bath(2, 1, false);
         x.bath(3, 1, true);
@@ -89,7 +81,7 @@ public final class LayoutTest {
     }
 
     private static void noRowsOfAnotherDay() {
-        CureTown x = town("cure a: each 2 (bath 0 1 bath 0 1);");
+        CureTown x = Texts.town("cure a: each 2 (bath 0 1 bath 0 1);");
         x.bath(0, 0, true);
         x.guest(0, 0, 0, 9, 0);
         CHECK.plans(x, 2, 0, 50, 0, 0, NONE);
@@ -99,7 +91,7 @@ public final class LayoutTest {
     }
 
     private static void gaps() {
-        CureTown x = town("cure a: rest 2 bath 0 2 rest 3 bath 0 1; cure b: bath 0 3; cure c: bath 0 2;");
+        CureTown x = Texts.town("cure a: rest 2 bath 0 2 rest 3 bath 0 1; cure b: bath 0 3; cure c: bath 0 2;");
         x.bath(0, 0, true);
         x.guest(0, 0, 0, 9, 0);
         x.guest(1, 1, 0, 9, 0);
@@ -110,7 +102,7 @@ public final class LayoutTest {
     }
 
     private static void rests() {
-        CureTown x = town("cure a: rest 16 rest 16 rest 15 rest 2 rest 1; cure b: rest 16 rest 16 rest 16;");
+        CureTown x = Texts.town("cure a: rest 16 rest 16 rest 15 rest 2 rest 1; cure b: rest 16 rest 16 rest 16;");
         x.guest(0, 0, 0, 9, 0);
         x.guest(0, 1, 0, 9, 0);
         CHECK.plans(x, 0, 0, 0, 3, 47, 0, 1);
@@ -122,7 +114,7 @@ public final class LayoutTest {
     }
 
     private static void thirty() {
-        CureTown x = town("cure a:" + Texts.times("rest 1 ", 30) + ";");
+        CureTown x = Texts.town("cure a:" + Texts.times("rest 1 ", 30) + ";");
         x.guest(0, 0, 0, 9, 0);
         CHECK.plans(x, 0, 0, 0, 30, 30, 0, 0);
         CHECK.plans(x, 0, 0, 38, 28, 29, NONE);
@@ -130,7 +122,7 @@ public final class LayoutTest {
     }
 
     private static void until() {
-        CureTown x = town("cure a: until 5 rest 1 until 3 rest 1 until 47 rest 1 until 9; cure b: until 47;");
+        CureTown x = Texts.town("cure a: until 5 rest 1 until 3 rest 1 until 47 rest 1 until 9; cure b: until 47;");
         x.guest(0, 0, 0, 9, 0);
         x.guest(0, 1, 0, 9, 0);
         CHECK.plans(x, 0, 0, 0, 3, 48, 0, 0);
@@ -139,7 +131,7 @@ public final class LayoutTest {
     }
 
     private static void each() {
-        CureTown x = town("cure a: each 2 (rest 1 each 3 (rest 2) rest 4) each 5 () rest 8 each 9 (rest 16);");
+        CureTown x = Texts.town("cure a: each 2 (rest 1 each 3 (rest 2) rest 4) each 5 () rest 8 each 9 (rest 16);");
         x.guest(0, 0, 0, 100, 0);
         CHECK.plans(x, 0, 0, 0, 5, 31, 0, 0);
         CHECK.plans(x, 1, 0, 0, 1, 8, 0, 0);
@@ -152,7 +144,7 @@ public final class LayoutTest {
     }
 
     private static void lost() {
-        CureTown x = town("cure a: rest 1 bath 0 1 rest 1 glass 0; cure b: each 2 (bath 0 1) rest 1; cure c: until 40 rest 9 until 1;");
+        CureTown x = Texts.town("cure a: rest 1 bath 0 1 rest 1 glass 0; cure b: each 2 (bath 0 1) rest 1; cure c: until 40 rest 9 until 1;");
         x.spring(0, 1, 0, 48, 0);
         x.guest(0, 0, 0, 9, 0);
         x.guest(0, 1, 0, 9, 0);
@@ -161,7 +153,7 @@ public final class LayoutTest {
         CHECK.plans(x, 0, 1, 0, 0, 0, 0, 1);
         CHECK.plans(x, 1, 1, 0, 1, 1, 0, 0);
         CHECK.plans(x, 0, 2, 0, 0, 0, 0, 1);
-        x = town("cure a: until 47 glass 0 glass 0;");
+        x = Texts.town("cure a: until 47 glass 0 glass 0;");
         x.spring(0, 9, 0, 48, 1);
         x.guest(0, 0, 0, 9, 1);
         x.guest(0, 0, 0, 9, 2);
@@ -170,7 +162,7 @@ public final class LayoutTest {
     }
 
     private static void order() {
-        CureTown x = town("cure a: glass 0;");
+        CureTown x = Texts.town("cure a: glass 0;");
         x.spring(0, 1, 0, 48, 0);
         int[] ranks = {3, 1, 2, 1, 0, 3, 0, 2};
         int[] places = {6, 2, 4, 3, 0, 7, 1, 5};
@@ -187,7 +179,7 @@ public final class LayoutTest {
     }
 
     private static void takenGlasses() {
-        CureTown x = town("cure a: glass 2 glass 2;");
+        CureTown x = Texts.town("cure a: glass 2 glass 2;");
         x.spring(2, 2, 1, 40, 0);
         for (int g = 0; g < 3; g++) {
             x.guest(0, 0, 4, 6, 0);
@@ -209,7 +201,7 @@ public final class LayoutTest {
     }
 
     private static void asAllIsNow() {
-        CureTown x = town("cure a: glass 0 bath 0 1;");
+        CureTown x = Texts.town("cure a: glass 0 bath 0 1;");
         x.guest(1, 0, 0, 9, 9);
         CHECK.plans(x, 7, 0, 0, 0, 0, 0, 1);
         x.spring(0, 1, 0, 48, 9);
@@ -223,7 +215,7 @@ public final class LayoutTest {
         CHECK.due("plan leaves the day alone", x.look(0), 0);
         CHECK.due("plan counts nothing", x.bill(0, 2), 0);
         // Told for best or not, a plan is in its order.
-        CureTown y = town("cure a: glass 0 rest 9; cure b: until 1 glass 0 rest 1;");
+        CureTown y = Texts.town("cure a: glass 0 rest 9; cure b: until 1 glass 0 rest 1;");
         y.spring(0, 1, 0, 1, 0);
         y.guest(0, 1, 0, 9, 0);
         y.keep(true);
@@ -231,7 +223,7 @@ public final class LayoutTest {
     }
 
     private static void wrongInputs() {
-        CureTown x = town("cure a: rest 1;");
+        CureTown x = Texts.town("cure a: rest 1;");
         x.guest(0, 0, 0, 100, 0);
         x.guest(0, 0, 3, 5, 0);
         int[] whats = {-1, 4, 9, 11, 49, 51, 89, 91, 120, Integer.MAX_VALUE, Integer.MIN_VALUE};

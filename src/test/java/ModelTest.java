@@ -6,6 +6,9 @@ import java.util.Random;
 public final class ModelTest {
     private static final int[] ODD = {-1, 4, 6, 8, 9, 48, 49, 100, 101, 1000, Integer.MAX_VALUE, Integer.MIN_VALUE};
 
+    // A text told in 35 calls may still come behind them, and an object is good for 512.
+    private static final int MOST_CALLS = 470;
+
     private final Random random;
     private final CureTown town = new CureTown();
     private final Model model = new Model();
@@ -40,21 +43,32 @@ public final class ModelTest {
     }
 
     private void run() {
-        int style = random.nextInt(5);
+        int style = random.nextInt(6);
         if (style == 4) {
             crowd();
             return;
+        }
+        if (style == 5) {
+            lateDays();
         }
         if (style > 0) {
             setUp();
         }
         // Texts are fed in many calls, so the count of calls is looked at, not that of rounds.
-        while (calls.size() < 480 && agrees) {
+        while (calls.size() < MOST_CALLS && agrees) {
             if (style == 3 && random.nextInt(3) == 0) {
                 tellText();
             } else {
                 anyCall();
             }
+        }
+    }
+
+    /** The run begins shortly ahead of the last day. */
+    private void lateDays() {
+        int days = 88 + upTo(11);
+        for (int i = 0; i < days; i++) {
+            same("next()", town.next(), model.next());
         }
     }
 
